@@ -75,8 +75,9 @@ public final class RandomRunsTest {
     }
 
     private void land() {
-        int high = between(2, draw(3) == 0 ? 5 : 3);
-        int wide = between(2, draw(3) == 0 ? 6 : 3);
+        int size = draw(8);
+        int high = size == 0 ? 5 : between(2, size < 3 ? 5 : 3);
+        int wide = size == 0 ? 6 : between(2, size < 3 ? 6 : 3);
         StringBuilder text = new StringBuilder("g").append(high).append(wide);
         int steep = between(1, 9);
         for (int r = 0; r < high; r++) {
@@ -102,7 +103,7 @@ public final class RandomRunsTest {
         }
         same("land " + text + " of " + n, x.land(1, sort, first, n), y.land(1, sort, first, n));
         fault();
-        for (int b = between(0, 6); b > 0; b--) {
+        for (int b = draw(4) == 0 ? 6 : between(0, 6); b > 0; b--) {
             hangOne();
         }
     }
