@@ -219,6 +219,11 @@ public final class ReportsTest {
         keep(x, "the last one hangs behind", 0, 1, 0, 4);
         x.recast(0, 3);
         keep(x, "one wood is too few", 0, 1, 0, null);
+        BellLand y = Due.landed("g26;000000;000000");
+        y.bell(0, 2, 1);
+        y.bell(0, 0, 4);
+        y.bell(0, 5, 60);
+        keep(y, "the first bell hangs there", 1, 1, 0, 3);
     }
 
     private static void keepRefused() {
