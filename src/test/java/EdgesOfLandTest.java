@@ -18,6 +18,7 @@ public final class EdgesOfLandTest {
         textOfASheet();
         landRefused();
         takenMakesAnew();
+        smallBehindWide();
         cells();
         planting();
         ears();
@@ -163,11 +164,76 @@ public final class EdgesOfLandTest {
         Run.run("nothing is PLANTED", Run.on(LIVELY, "land 1 1 1 9 = 4", "many 4 = 0", "ofCell 1 2 = 0", "plant 1 false = 0",
                 "text g23;000;000 = 6", "bell 0 0 5 = 0", "loud 0 2 0 = 1/1"));
         Run.run("EAR 10", Run.on(LIVELY, "land 1 1 1 9 = 4", "many 6 = 10", "ear 3 = 10"));
-        Run.run("but for the SHEETS", Run.on(LIVELY, "lose 2 = 1", "land 1 1 1 9 = 4", "cell 1 0 1 = 7", "cell 1 1 1 = 103",
-                "cell 0 10 0 = 53", "cell 2 0 2 ! LOST 1", "cell 3 0 2 ! LOST 1"));
+        Run.run("but for the SHEETS", Run.on(LIVELY, "row 2 2 : 8 MAX", "land 1 1 1 9 = 4", "cell 1 0 1 = 7", "cell 1 1 1 = 103",
+                "cell 1 9 1 = 48", "cell 1 10 1 ! LOST 3", "cell 0 0 0 = 103", "cell 0 10 0 = 53", "cell 0 11 0 ! LOST 3", "cell 2 0 2 = 8",
+                "cell 2 1 2 = 2147483647", "cell 2 2 2 ! LOST 3", "cell 3 0 2 ! LOST 1"));
         Run.run("and TRACE", Run.on(LIVELY, "trace = 91327", "land 1 1 1 9 = 4", "trace = 91327"));
         Run.run("a LAND that is as it was is made anew, too", Run.on(LIVELY, "land 0 0 0 11 = 6", "many 3 = 0",
                 "many 4 = 0", "many 5 = 0", "many 6 = 10"));
+    }
+
+    /** Whatever the widest LAND with all its BELLS, REPORTS and woods was, a small one behind it is as on a new object. */
+    private static void smallBehindWide() {
+        for (int ear : new int[] {0, 5, 10, 40}) {
+            for (int count = 0; count <= 3; count++) {
+                BellLand x = Due.landed("g56;999999;909090;000000;090909;999999");
+                for (int b = 0; b < 6; b++) {
+                    Due.due("bell", x.bell(b % 3, b == 3 ? 1 : 29 - 5 * b, 99 - b), b);
+                    x.plant(5 * b + 1, true);
+                }
+                for (int k = 0; k < 10; k++) {
+                    Due.due("report", x.report(k, k, k % 6, (k + 1) % 6), k);
+                }
+                x.ear(0);
+                x.settles(11, 0);
+                x.turns(12, 0);
+                x.hang(0, 9, 13, 0);
+                x.keep(5, 6, 14, 0);
+                smallAsNew(x, count, ear);
+            }
+        }
+    }
+
+    private static void smallAsNew(BellLand x, int count, int ear) {
+        BellLand y = new BellLand();
+        for (BellLand land : new BellLand[] {x, y}) {
+            Due.due("a small land", Due.land(land, "g23;010;302"), 6);
+            for (int b = 0; b < count; b++) {
+                Due.due("bell", land.bell(2 - b, 2 * b, 5 + 3 * b), b);
+            }
+            land.ear(ear);
+            Due.row(land, 1, 0, 13, 0);
+        }
+        for (int b = -1; b <= count; b++) {
+            for (int wind = 0; wind <= 39; wind += 13) {
+                same("reach", x.reach(b, wind), y.reach(b, wind));
+                same("together", x.together(0, b, wind), y.together(0, b, wind));
+                same("turns", x.turns(wind, b), y.turns(wind, b));
+                same("after", x.after(b, wind, 3), y.after(b, wind, 3));
+                same("pacts", x.pacts(wind, b), y.pacts(wind, b));
+            }
+            same("tithes", x.tithes(b, 1, 0, 0, 2, 0), y.tithes(b, 1, 0, 0, 2, 0));
+            same("tithes", x.tithes(b, 1, 0, 0, 2, 1), y.tithes(b, 1, 0, 0, 2, 1));
+            same("leaves", x.leaves(b, 0), y.leaves(b, 0));
+        }
+        for (int c = -1; c <= 6; c++) {
+            same("bells", x.ofCell(c, 3), y.ofCell(c, 3));
+            same("whose", x.whose(c, 13), y.whose(c, 13));
+            same("cheapest", x.cheapest(c, 13, 0), y.cheapest(c, 13, 0));
+            same("keep", x.keep(0, c, 13, -1), y.keep(0, c, 13, -1));
+            same("loud", x.loud(0, c, 13, 0), y.loud(0, c, 13, 0));
+            same("report", x.report(c, 13, 0, 1), y.report(c, 13, 0, 1));
+        }
+        same("hang", x.hang(0, 4, 13, 0), y.hang(0, 4, 13, 0));
+        same("hang", x.hang(0, 4, 13, 1), y.hang(0, 4, 13, 1));
+        same("settles", x.settles(13, 0), y.settles(13, 0));
+        same("settles", x.settles(13, 1), y.settles(13, 1));
+        same("untrue", x.untrue(), y.untrue());
+        same("woods", x.many(4), y.many(4));
+    }
+
+    private static void same(String call, long behind, long anew) {
+        Due.due(call + " of a small LAND behind a wide one", behind, anew);
     }
 
     // ---- Promises 3 to 5

@@ -74,8 +74,9 @@ public final class EdgesOfReportsTest {
         Run.run("as all is: WEIGHTS, what is PLANTED", "text g23;000;000 = 6", "bell 0 0 20 = 0", "bell 0 5 7 = 1", "report 2 0 0 1 = 0",
                 "untrue ! 0", "plant 1 true = 1", "untrue = 1", "recast 1 3 = 7", "untrue = 0", "recast 1 4 = 3", "untrue = 1",
                 "plant 1 false = 1", "untrue = 0");
-        Run.run("whether they are HEARD does not matter", Run.on(TWO, "ear 99 = 10", "report 0 0 0 1 = 0", "report 0 0 1 0 = 1",
-                "untrue = 2", "ear 0 = 99", "untrue = 2"));
+        Run.run("whether they are HEARD does not matter", Run.on(TWO, "recast 1 9 = 10", "report 1 0 0 1 = 0", "report 1 0 1 0 = 1",
+                "untrue = 2", "leaves 1 2 = NONE", "ear 99 = 10", "whose 1 0 = DEAF", "untrue = 2", "ear 0 = 99", "untrue = 2", "back 1 = 1",
+                "ear 99 = 0", "leaves 0 0 = 90", "leaves 0 1 = 10"));
     }
 
     // ---- LEAVES
@@ -152,6 +153,9 @@ public final class EdgesOfReportsTest {
             "text g56;000000;000000;000000;000000;000000 = 30", "bell 0 29 6 = 0", "bell 1 4 50 = 1"}, keep("0 28 0", "1", "10", "NONE", "NONE")));
         Run.run("of several pairs the first", Run.on(new String[] {"text g56;000000;000000;000000;000000;000000 = 30", "bell 0 29 3 = 0",
             "bell 1 4 50 = 1"}, keep("0 28 0", "2", "10", "16", "NONE")));
+        // From 0 to 8 the way leads over 7, from 8 to 0 it would lead over 1.
+        Run.run("on the way from the BELL to the CELL", Run.on(new String[] {"text g56;000000;000000;000000;000000;000000 = 30", "bell 0 9 6 = 0",
+            "bell 0 0 18 = 1"}, keep("0 8 0", "1", "7", "NONE", "NONE")));
         // In 8 BELL 0 is 5 over 6, and 1 is 99 by 17 over 2, 4, 6.
         String[] column = {"text g52;00;00;00;00;00 = 10", "bell 0 4 25 = 0", "bell 0 0 99 = 1"};
         Run.run("what dims both is of no use", Run.on(column, keep("0 8 0", "1", "2", "NONE", "NONE")));

@@ -42,6 +42,8 @@ public final class EdgesOfTithesTest {
                 "tithes 0 1 0 3 1 = 30/1", "tithes 1 1 0 0 4 = 110/1");
         Run.run("and CELL that is its own: none", "text g22;09;18 = 4", "bell 0 0 9 = 0", "bell 0 0 8 = 1", "row 1 1 : 0 0",
                 "tithes 1 1 1 0 2 = 0/1", "tithes 0 1 1 0 2 = 44/1", "ear 99 = 10", "tithes 0 1 1 0 2 = 0/1");
+        Run.run("by an EAR of 0, which hears all", "text g22;09;18 = 4", "bell 0 0 1 = 0", "ear 0 = 10", "row 1 2 : 0 39", "tithes 0 1 2 0 1 = 22/1",
+                "tithes 0 1 2 0 2 = 44/1", "bell 0 0 1 = 1", "tithes 0 1 2 0 1 = 11/1", "recast 1 2 = 1", "tithes 0 1 2 0 2 = 0/1");
         for (int sort = 0; sort <= 2; sort++) {
             Run.run("by n such cells, of SORT " + sort, Run.on(one, "row 3 " + sort + " : 40 0 39 -1",
                     "tithes 0 3 " + sort + " 1 2 = 44/1"));
