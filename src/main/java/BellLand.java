@@ -1354,7 +1354,8 @@ public final class BellLand {
 
         private int bestWeight(int b) {
             int best = weight[b];
-            int most = Integer.MIN_VALUE;
+            // Below what the heaviest bell without own cells gains.
+            int most = -MOST_WEIGHT - 1;
             int last = Math.min(MOST_WEIGHT, weight[b] + 1);
             for (int w = Math.max(1, weight[b] - 1); w <= last; w++) {
                 int gain = 10 * air.howManyAboveBars(b, w) - w;

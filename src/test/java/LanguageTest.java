@@ -124,6 +124,8 @@ public final class LanguageTest {
         while (calls.find()) {
             want(LIBRARY.contains(calls.group(1)), "call of " + calls.group(1));
         }
+        String withoutLost = code.replace("public static final long LOST = Long.MIN_VALUE;", "");
+        want(!Pattern.compile("\\b(Integer|Long|Math)\\.[A-Z]").matcher(withoutLost).find(), "a constant of the library");
         want(text.chars().allMatch(c -> c < 128), "a sign above 127");
         lengths(text);
     }
